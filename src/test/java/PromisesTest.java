@@ -1,30 +1,8 @@
 /** Each promise of the document by its number: ordinary inputs, the edges, wrong inputs. */
-public final class PromisesTest {
-    private static final int NONE = -1;
-    private static final int UNKNOWN = -2;
-    private static final int ABSORBED = -3;
-    private static final int REMOVED = -4;
-    private static final int LATER = -5;
-    private static final int BELOW = -6;
-    private static final int UNLIKE = -7;
-    private static final int FULL = -8;
-
-    private static final int MELDABLE = 0;
-    private static final int TWO_ENDED = 1;
-    private static final int MONOTONE = 2;
-
-    private static final int ASCENDING = 0;
-    private static final int DESCENDING = 1;
-    private static final int UNSIGNED = 2;
-    private static final int LOW = 3;
-
-    private static final long MIN = Long.MIN_VALUE;
-    private static final long MAX = Long.MAX_VALUE;
+public final class PromisesTest extends Sentences {
     private static final int[] NEVER_NUMBERS = {
         Integer.MIN_VALUE, -4, -3, -2, -1, 500, Integer.MAX_VALUE,
     };
-
-    private static final Checks CHECKS = new Checks();
 
     public static void main(String[] args) {
         newObject();
@@ -53,26 +31,6 @@ public final class PromisesTest {
         CHECKS.end();
     }
 
-    private static void due(String call, long got, long want) {
-        CHECKS.due(call, got, want);
-    }
-
-    /** A new object with heaps of these kinds and orders: kind, order, kind, order, .. */
-    private static MeldingHeaps withHeaps(int... kindsAndOrders) {
-        MeldingHeaps x = new MeldingHeaps();
-        for (int i = 0; i < kindsAndOrders.length; i += 2) {
-            x.open(kindsAndOrders[i], kindsAndOrders[i + 1]);
-        }
-        return x;
-    }
-
-    /** Inserts entries with these keys and, as values, 100 and their numbers. */
-    private static void fill(MeldingHeaps x, int heap, int firstNumber, long... keys) {
-        for (int i = 0; i < keys.length; i++) {
-            due("insert to fill", x.insert(heap, keys[i], 100 + firstNumber + i), firstNumber + i);
-        }
-    }
-
     /** Heap 1 is absorbed by heap 0; both MELDABLE and ASCENDING, entries 0 (key 5) and 1 (key 3). */
     private static MeldingHeaps withAbsorbed() {
         MeldingHeaps x = withHeaps(MELDABLE, ASCENDING, MELDABLE, ASCENDING);
@@ -80,13 +38,6 @@ public final class PromisesTest {
         fill(x, 1, 1, 3);
         due("meld(0, 1)", x.meld(0, 1), 2);
         return x;
-    }
-
-    private static void takeAll(MeldingHeaps x, int heap, int... due) {
-        for (int entry : due) {
-            due("take(" + heap + ")", x.take(heap), entry);
-        }
-        due("take(" + heap + ") at the end", x.take(heap), NONE);
     }
 
     private static void newObject() {
