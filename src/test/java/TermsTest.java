@@ -700,8 +700,14 @@ public final class TermsTest extends Sentences {
 
     private static void absorbedForGood() {
         sentence("Terms", "and it stays so for good");
-        MeldingHeaps x = withHeaps(MELDABLE, ASCENDING, MELDABLE, ASCENDING, MELDABLE, ASCENDING, TWO_ENDED, ASCENDING);
-        fill(x, 0, 0, 1, 2);
+        for (int order = 0; order < ORDERS; order++) {
+            absorbedForGood(order);
+        }
+    }
+
+    private static void absorbedForGood(int order) {
+        MeldingHeaps x = withHeaps(MELDABLE, order, MELDABLE, order, MELDABLE, order, TWO_ENDED, order);
+        fill(x, 0, 0, keyOf(order, 1), keyOf(order, 2));
         due("meld(1, 0)", x.meld(1, 0), 2);
         due("meld(2, 1): the absorbing one is absorbed", x.meld(2, 1), 2);
         dueAbsorbed(x, 0, 2);
@@ -710,7 +716,7 @@ public final class TermsTest extends Sentences {
         due("drain(2, 3, 1)", x.drain(2, 3, 1), 1);
         due("clear(2)", x.clear(2), 0);
         due("clear(3)", x.clear(3), 1);
-        due("open", x.open(MELDABLE, ASCENDING), 4);
+        due("open", x.open(MELDABLE, order), 4);
         due("meld(4, 2)", x.meld(4, 2), 0);
         dueAbsorbed(x, 0, 3);
         dueAbsorbed(x, 1, 4);
