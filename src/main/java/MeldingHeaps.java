@@ -127,6 +127,8 @@ public final class MeldingHeaps {
             return refusal;
         }
         int heap = owners[entry];
+        // LATER first, as the document names it; the two never fit together, since nothing is below
+        // the floor of the heap that it is in.
         if (weight(orders[heap], key) > weight(orders[heap], keys[entry])) {
             return LATER;
         }

@@ -59,6 +59,10 @@ final class Model {
             return kind != 2 || weight(key) >= floor;
         }
 
+        boolean holdsBelowFloor() {
+            return !entries.isEmpty() && !letsIn(entries.first().key);
+        }
+
         Entry pollFirst() {
             Entry entry = entries.pollFirst();
             if (kind == 2) {
@@ -77,6 +81,15 @@ final class Model {
 
     int entryCount() {
         return entries.size();
+    }
+
+    /** How many heaps hold an entry that their floor would not let in. */
+    int heapsWithEntryBelowFloor() {
+        int count = 0;
+        for (Heap heap : heaps) {
+            count += heap.holdsBelowFloor() ? 1 : 0;
+        }
+        return count;
     }
 
     private int heapFault(int heap) {

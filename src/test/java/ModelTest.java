@@ -55,6 +55,8 @@ public final class ModelTest {
             } else {
                 ask();
             }
+            // As long as this holds, LATER and BELOW never fit the same call of decrease.
+            checks.due("heaps with an entry below their floor", model.heapsWithEntryBelowFloor(), 0);
         }
     }
 

@@ -69,6 +69,7 @@ public final class RefusalsTest extends Sentences {
         promise8Later();
         promise8LaterAtTheLimits();
         promise8Below();
+        promise8LaterNamedBeforeBelow();
         promise9();
         promise10HeapFirst();
         promise10Other();
@@ -442,6 +443,37 @@ public final class RefusalsTest extends Sentences {
             Scene scene = withFloor(order, keyOf(order, 100)).then(x -> x.insert(0, above, 0));
             changesNothing(scene, "decrease to one below the floor, order " + order, x -> x.decrease(1, below), BELOW);
             due("decrease to the floor", scene.make().decrease(1, keyOf(order, 100)), 1);
+        }
+    }
+
+    /**
+     * Both would fit only for an entry that is below the floor of its own heap, and none ever is (the
+     * runs of ModelTest look for one after every call). What can be tested is that each has its place:
+     * LATER above the weight that the entry has, at the floor too, and BELOW under the floor.
+     */
+    private static void promise8LaterNamedBeforeBelow() {
+        sentence("promise 8", "LATER ..; BELOW .. (the one that is named first)");
+        int floor = 100;
+        for (int order = 0; order < ORDERS; order++) {
+            for (int weight = floor; weight < floor + 3; weight++) {
+                for (int wanted = floor - 3; wanted < floor + 6; wanted++) {
+                    laterOrBelow(order, floor, weight, wanted);
+                }
+            }
+        }
+    }
+
+    private static void laterOrBelow(int order, int floor, int weight, int wanted) {
+        long held = keyOf(order, weight);
+        long key = keyOf(order, wanted);
+        Scene scene = withFloor(order, keyOf(order, floor)).then(x -> x.insert(0, held, 0));
+        String name = "decrease from " + weight + " to " + wanted + ", the floor being " + floor;
+        if (wanted > weight) {
+            changesNothing(scene, name, x -> x.decrease(1, key), LATER);
+        } else if (wanted < floor) {
+            changesNothing(scene, name, x -> x.decrease(1, key), BELOW);
+        } else {
+            due(name, scene.make().decrease(1, key), 1);
         }
     }
 
